@@ -1,3 +1,6 @@
+import java.util.function.BiConsumer;
+import java.util.function.IntConsumer;
+
 /** Compares answers with the ones that are due, and ends the program with 1 if there was a wrong one. */
 final class Checks {
     private final String name;
@@ -27,10 +30,10 @@ final class Checks {
     }
 
     /** Checks that a call throws an exception of exactly this class. */
-    void dueThrow(String call, Class<? extends RuntimeException> want, Runnable made1) {
+    void dueThrow(String call, Class<? extends RuntimeException> want, Runnable caller) {
         made++;
         try {
-            made1.run();
+            caller.run();
         } catch (RuntimeException e) {
             if (e.getClass() != want) {
                 complain(call + " threw " + e + ", due is " + want.getName());
@@ -40,16 +43,66 @@ final class Checks {
         complain(call + " threw nothing, due is " + want.getName());
     }
 
-    void illegal(String call, Runnable made1) {
-        dueThrow(call, IllegalArgumentException.class, made1);
+    void illegal(String call, Runnable caller) {
+        dueThrow(call, IllegalArgumentException.class, caller);
     }
 
-    void outside(String call, Runnable made1) {
-        dueThrow(call, IndexOutOfBoundsException.class, made1);
+    void outside(String call, Runnable caller) {
+        dueThrow(call, IndexOutOfBoundsException.class, caller);
     }
 
-    void refused(String call, Runnable made1) {
-        dueThrow(call, IllegalStateException.class, made1);
+    void refused(String call, Runnable caller) {
+        dueThrow(call, IllegalStateException.class, caller);
+    }
+
+    /** Checks that an argument may be from least to most, and that all others are refused. */
+    void range(String call, int least, int most, IntConsumer caller) {
+        for (int right : new int[] {least, most, least + (most - least) / 2}) {
+            made++;
+            try {
+                caller.accept(right);
+            } catch (RuntimeException e) {
+                complain(call + " with " + right + " threw " + e);
+            }
+        }
+        for (long bad : new long[] {least - 1L, most + 1L, Integer.MIN_VALUE, Integer.MAX_VALUE}) {
+            if ((bad < least || bad > most) && bad == (int) bad) {
+                illegal(call + " with " + bad, () -> caller.accept((int) bad));
+            }
+        }
+    }
+
+    /** Checks that the two arguments of a window are refused outside 0 to 255 and in the wrong order. */
+    void window(String call, BiConsumer<Integer, Integer> caller) {
+        int[][] right = {{0, 0}, {0, 255}, {255, 255}, {100, 101}};
+        int[][] bad = {{-1, 0}, {-1, -1}, {0, 256}, {256, 256}, {256, 300}, {1, 0}, {255, 254}, {0, -1},
+            {Integer.MIN_VALUE, Integer.MAX_VALUE}, {0, Integer.MAX_VALUE}, {Integer.MIN_VALUE, 10}};
+        for (int[] pair : right) {
+            made++;
+            try {
+                caller.accept(pair[0], pair[1]);
+            } catch (RuntimeException e) {
+                complain(call + " in " + pair[0] + ", " + pair[1] + " threw " + e);
+            }
+        }
+        for (int[] pair : bad) {
+            illegal(call + " in " + pair[0] + ", " + pair[1], () -> caller.accept(pair[0], pair[1]));
+        }
+    }
+
+    /** Checks that there is nothing with the numbers beside 0 to amount - 1. */
+    void numbers(String call, int amount, IntConsumer caller) {
+        for (int number : new int[] {0, amount - 1}) {
+            made++;
+            try {
+                caller.accept(number);
+            } catch (RuntimeException e) {
+                complain(call + " of " + number + " threw " + e);
+            }
+        }
+        for (int number : new int[] {-1, amount, Integer.MIN_VALUE, Integer.MAX_VALUE}) {
+            outside(call + " of " + number, () -> caller.accept(number));
+        }
     }
 
     void complain(String what) {

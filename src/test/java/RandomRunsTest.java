@@ -45,6 +45,12 @@ public final class RandomRunsTest {
         return least + random.nextInt(most - least + 1);
     }
 
+    /** The number of a vehicle (0), a source (1) or a microphone (2), now and then one that there is not. */
+    private int which(int what) {
+        int there = model.count(what);
+        return there == 0 || random.nextInt(15) == 0 ? (random.nextBoolean() ? -1 : there) : pick(0, there - 1);
+    }
+
     /** Numbers near the middle are the interesting ones, so that what sounds is also heard. */
     private void prepare() throws Exception {
         boolean near = random.nextInt(4) != 0;
@@ -56,25 +62,31 @@ public final class RandomRunsTest {
         if (random.nextInt(3) == 0) {
             call("setNoise", random.nextInt() & Integer.MAX_VALUE, pick(0, 99));
         }
-        for (int k = pick(0, 4); k > 0; k--) {
+        for (int k = random.nextInt(9) == 0 ? 0 : pick(1, 4); k > 0; k--) {
             call("addVehicle", pick(-reach, reach), pick(-50, 50), pick(100, near ? 1500 : 5000));
         }
-        for (int k = pick(0, 6); k > 0; k--) {
-            call("addSource", pick(0, 3), pick(-1000, 1000), pick(0, 500), pick(1, 10), pick(-99, 99));
+        for (int k = random.nextInt(9) == 0 ? 0 : pick(1, 6); k > 0; k--) {
+            call("addSource", which(0), pick(-1000, 1000), pick(0, 500), pick(1, 10), pick(-99, 99));
         }
         for (int k = pick(0, 40); k > 0; k--) {
-            call("addValue", pick(0, 5), pick(-99, 99));
+            call("addValue", which(1), pick(-99, 99));
         }
-        for (int k = pick(0, 9); k > 0; k--) {
+        for (int k = random.nextInt(9) == 0 ? 0 : pick(1, 9); k > 0; k--) {
             call("addMicrophone", pick(-reach / 4, reach / 4), pick(-100, 99), pick(0, 500), pick(0, 9));
         }
         call("makeRecording");
+        call("save", pick(0, 1));
     }
 
     private void anyCall() throws Exception {
         int turn = random.nextInt(100);
-        if (turn < 6) {
+        if (turn < 2) {
             loadSomething();
+            if (random.nextBoolean()) {
+                call("restore", pick(0, 1));
+            } else {
+                prepare();
+            }
         } else if (turn < 9) {
             focus();
         } else {
@@ -89,7 +101,7 @@ public final class RandomRunsTest {
 
     private void focus() throws Exception {
         switch (random.nextInt(3)) {
-            case 0 -> call("focusOnVehicle", pick(0, 3), pick(-1000, 1000), pick(0, 500));
+            case 0 -> call("focusOnVehicle", which(0), pick(-1000, 1000), pick(0, 500));
             case 1 -> call("focusOnPlace", pick(-3000, 3000), pick(100, 1500), pick(0, 500));
             default -> call("focusOnDirection", pick(-100, 100));
         }
@@ -122,29 +134,29 @@ public final class RandomRunsTest {
     private void tame(String name, Object[] a) {
         int last = a.length - 1;
         switch (name) {
-            case "measureRecord" -> set(a, 0, 7, 0, 4);
-            case "loudestMicrophone", "meanPower", "crest" -> set(a);
-            case "loudestWindow" -> set(a, 0, 7, 1, 256);
-            case "correlation" -> set(a, 0, 7, 0, 7, -255, 255);
-            case "bestLag" -> set(a, 0, 7, 0, 7, 0, 255);
-            case "sample", "sampleNumber", "part" -> set(a, 0, 7, 0, 255);
-            case "emitted" -> set(a, 0, 5, 0, 255);
-            case "distance", "emissionTime" -> set(a, 0, 7, 0, 5, 0, 255);
-            case "passTime" -> set(a, 0, 3, 0, 7);
-            case "beam" -> set(a, 0, 255);
-            case "measureBeam" -> set(a, 0, 4);
-            case "periodPower", "bestPeriod" -> set(a, 1, 64);
-            case "energyBeside" -> set(a, -2000, 2000);
-            case "scan" -> set(a, 1, 100, 0, random.nextInt(6) == 0 ? 20 : 4);
-            case "bestDirection" -> set(a, 1, 100);
-            case "spectrum" -> set(a, -100, 100, 1, 64);
-            case "count", "truncateText" -> set(a, 0, 4);
-            case "save", "restore" -> set(a, 0, 1);
-            case "setWeight" -> set(a, 0, 7, 0, 9);
-            case "addValue" -> set(a, 0, 5, -99, 99);
-            case "setGround" -> set(a, -90, 90);
-            case "setSound" -> set(a, 100, 1000);
-            case "setNoise" -> set(a, 0, 1000000, 0, 99);
+            case "measureRecord" -> set(a, which(2), in(0, 4));
+            case "loudestWindow" -> set(a, which(2), in(1, 256));
+            case "correlation" -> set(a, which(2), which(2), in(-255, 255));
+            case "bestLag" -> set(a, which(2), which(2), in(0, 255));
+            case "sample", "sampleNumber", "part" -> set(a, which(2), in(0, 255));
+            case "emitted" -> set(a, which(1), in(0, 255));
+            case "distance", "emissionTime" -> set(a, which(2), which(1), in(0, 255));
+            case "passTime" -> set(a, which(0), which(2));
+            case "beam" -> set(a, in(0, 255));
+            case "measureBeam" -> set(a, in(0, 4));
+            case "periodPower", "bestPeriod" -> set(a, in(1, 64));
+            case "energyBeside" -> set(a, random.nextBoolean() ? in(-200, 200) : in(-2000, 2000));
+            case "scan" -> set(a, in(1, 100), in(0, random.nextInt(9) == 0 ? 20 : 4));
+            case "bestDirection" -> set(a, in(1, 100));
+            case "spectrum" -> set(a, in(-100, 100), in(1, 64));
+            case "count", "truncateText" -> set(a, in(0, 4));
+            case "save", "restore" -> set(a, in(0, 1));
+            case "setWeight" -> set(a, which(2), in(0, 9));
+            case "addValue" -> set(a, which(1), in(-99, 99));
+            case "addSource" -> set(a, which(0), in(-1000, 1000), in(0, 500), in(1, 10), in(-99, 99));
+            case "setGround" -> set(a, in(-90, 90));
+            case "setSound" -> set(a, in(100, 1000));
+            case "setNoise" -> set(a, in(0, 1000000), in(0, 99));
             default -> { }
         }
         boolean windowed = List.of("measureRecord", "loudestMicrophone", "meanPower", "crest", "measureBeam",
@@ -156,10 +168,15 @@ public final class RandomRunsTest {
         }
     }
 
-    private void set(Object[] a, int... ranges) {
-        for (int k = 0; 2 * k < ranges.length; k++) {
-            a[k] = random.nextInt(40) == 0 ? ranges[2 * k + 1] + 1 : pick(ranges[2 * k], ranges[2 * k + 1]);
+    private static void set(Object[] arguments, int... chosen) {
+        for (int k = 0; k < chosen.length; k++) {
+            arguments[k] = chosen[k];
         }
+    }
+
+    /** A number in a range, now and then the one behind it. */
+    private int in(int least, int most) {
+        return random.nextInt(40) == 0 ? most + 1 : pick(least, most);
     }
 
     // ---- texts
