@@ -1053,7 +1053,7 @@ public final class TrackArray {
         private int amount;
 
         int kindAt(int index) {
-            return elementAt(kinds, index);
+            return index < 0 || index >= kinds.length ? END : kinds[index];
         }
 
         int startAt(int index) {
@@ -1175,6 +1175,7 @@ public final class TrackArray {
                     return statements;
                 }
                 if (!readStatement(scene) || !readSemicolon()) {
+                    position = tokens.startAt(at);
                     return NONE;
                 }
             }
@@ -1183,7 +1184,6 @@ public final class TrackArray {
 
         private boolean fail(int newCode) {
             code = newCode;
-            position = tokens.startAt(at);
             return false;
         }
 
@@ -1256,42 +1256,37 @@ public final class TrackArray {
             return right;
         }
 
+        /** It reads no more values than a pattern can hold: behind them only a semicolon is right. */
         private boolean readSource(Scene scene) {
             boolean right = readWord(scene.sourceCount, SOURCES)
                     && readNumber(0, scene.vehicleCount - 1)
                     && readInteger(-GREATEST_OFFSET, GREATEST_OFFSET)
                     && readNumber(0, GREATEST_HEIGHT)
                     && readNumber(1, GREATEST_STRENGTH)
-                    && readInteger(-GREATEST_VALUE, GREATEST_VALUE)
-                    && readMoreValues();
+                    && readInteger(-GREATEST_VALUE, GREATEST_VALUE);
+            for (int length = 1; right && length < PATTERN_LENGTH && isAtInteger(); length++) {
+                right = readInteger(-GREATEST_VALUE, GREATEST_VALUE);
+            }
             if (right) {
-                putSource(scene);
+                scene.putSource(arguments[0], arguments[1], arguments[2], arguments[3], arguments[4]);
+                putMoreValues(scene);
             }
             return right;
         }
 
-        /** It stops behind the last value that a pattern can hold: there only a semicolon is right. */
-        private boolean readMoreValues() {
-            for (int length = 1; length < PATTERN_LENGTH; length++) {
-                int kind = tokens.kindAt(at);
-                if (kind != Tokens.NUMBER && kind != Tokens.MINUS) {
-                    return true;
-                }
-                if (!readInteger(-GREATEST_VALUE, GREATEST_VALUE)) {
-                    return false;
-                }
-            }
-            return true;
-        }
-
-        private void putSource(Scene scene) {
-            int number = scene.putSource(arguments[0], arguments[1], arguments[2], arguments[3], arguments[4]);
+        private void putMoreValues(Scene scene) {
+            int number = scene.sourceCount - 1;
             if (number < 0 || number >= SOURCES) {
                 return;
             }
             for (int index = ARGUMENTS_BEFORE_VALUES + 1; index < argumentCount; index++) {
                 scene.sources[number].append(elementAt(arguments, index));
             }
+        }
+
+        private boolean isAtInteger() {
+            int kind = tokens.kindAt(at);
+            return kind == Tokens.NUMBER || kind == Tokens.MINUS;
         }
 
         private boolean readWord(int present, int most) {
@@ -1304,7 +1299,7 @@ public final class TrackArray {
 
         private boolean readInteger(int least, int greatest) {
             if (tokens.kindAt(at) != Tokens.MINUS) {
-                return readNumber(least, greatest);
+                return takeArgument(tokens.valueAt(at), least, greatest);
             }
             at++;
             return takeArgument(-tokens.valueAt(at), least, greatest);

@@ -28,6 +28,7 @@ public final class BeamsTest {
         x.setWeight(1, 0);
         C.due("beam(1) of other weights", x.beam(1), -54);
         C.due("beam of nothing", new TrackArray().beam(255), 0);
+        exactlyAtTheFocus();
         TrackArray y = Scenes.echoing();
         y.addMicrophone(100, 0, 450, 3);
         y.setSpreading(true);
@@ -36,6 +37,34 @@ public final class BeamsTest {
         y.focusOnVehicle(0, 0, 150);
         for (int t = 0; t <= 255; t += 5) {
             C.due("beam(" + t + ") of cut parts", y.beam(t), y.part(0, t) + 3 * y.part(1, t));
+        }
+    }
+
+    /** All measures are of the beam at the focus, and of no place beside it. */
+    private static void exactlyAtTheFocus() {
+        TrackArray x = new TrackArray();
+        x.setSound(100);
+        x.addMicrophone(5000, 0, 0, 1);
+        x.setNoise(11, 99);
+        x.makeRecording();
+        // 5000 * -2 / 10000 is -1; of -1 it is -0.5, which rounds down to -1 too, so that only -1 and -2 are alike
+        x.focusOnDirection(-2);
+        C.due("the beam", x.beam(50), x.sample(0, 49));
+        x.focusOnDirection(-1);
+        int value = x.sample(0, 49);
+        C.due("the beam at -1", x.beam(50), value);
+        C.due("its sum", x.measureBeam(3, 50, 50), value);
+        C.due("its power", x.periodPower(1, 50, 50), (long) value * value);
+        C.dueDouble("its mean power", x.meanPower(50, 50), (double) value * value);
+        int first = Math.abs(x.sample(0, 49));
+        int second = Math.abs(x.sample(0, 50));
+        double mean = ((double) first * first + (double) second * second) / 2.0;
+        double peak = Math.max(first, second);
+        C.dueDouble("its crest", x.crest(50, 51), (float) (peak * peak / mean));
+        for (int at = 50; at < 60; at++) {
+            long sum = x.sample(0, at - 1) + x.sample(0, at);
+            long squares = x.measureRecord(0, 0, at - 1, at);
+            C.due("its best period at " + at, x.bestPeriod(2, at, at + 1), sum * sum / 2 < squares ? 2 : 1);
         }
     }
 

@@ -36,6 +36,18 @@ public final class FocusTest {
         C.due("after refused ones", x.sampleNumber(0, 120), 133);
         x.focusOnVehicle(1, 0, 0);
         C.due("the other vehicle", x.sampleNumber(0, 120), 130);
+        x.focusOnDirection(0);
+        C.due("a direction", x.sampleNumber(0, 120), 120);
+        x.focusOnVehicle(1, 0, 0);
+        C.due("riding again", x.sampleNumber(0, 120), 130);
+        TrackArray later = new TrackArray();
+        later.addVehicle(0, 10, 100);
+        later.focusOnVehicle(0, 0, 0);
+        later.addVehicle(4000, 0, 100);
+        later.addMicrophone(0, 0, 0, 1);
+        later.setSound(100);
+        // 2000 along and 100 across: 2002.5
+        C.due("vehicles and microphones that come later", later.sampleNumber(0, 200), 221);
     }
 
     private static void places() { // promise 24
@@ -47,6 +59,12 @@ public final class FocusTest {
         x.addVehicle(0, 50, 100);
         x.addMicrophone(0, 0, 0, 1);
         C.due("at first 100 away", x.sampleNumber(0, 0), 1);
+        first(-5000, 0, 0, 100, 50); // 5000.99 away
+        first(5000, 0, 0, 100, 50);
+        first(0, -2, 0, 101, 2); // 102 away
+        first(0, -1, 0, 101, 1); // 101 away
+        first(0, 0, 500, 508, 2); // 509.9 away
+        first(0, 0, 500, 509, 1);
         C.due("at first, later", x.sampleNumber(0, 200), 201);
         x.focusOnVehicle(0, 0, 0);
         x.focusOnPlace(300, 400, 0);
@@ -61,6 +79,17 @@ public final class FocusTest {
         x.focusOnPlace(-20000, 5000, 0);
         // the root of 425000000 is 20615.5
         C.due("far away", x.sampleNumber(0, 0), 207);
+    }
+
+    /** The sample number of the place at first, for one microphone. */
+    private static void first(int x, int y, int height, int sound, int due) {
+        TrackArray array = new TrackArray();
+        array.setSound(sound);
+        array.addMicrophone(x, y, height, 1);
+        C.due("the first focus, from " + x + ", " + y + ", " + height, array.sampleNumber(0, 0), due);
+        array.focusOnDirection(1);
+        C.due("load()", Checks.loadText(array, "sound " + sound + ";mic " + x + " " + y + " " + height + " 1;"), 2);
+        C.due("the first focus after load()", array.sampleNumber(0, 0), due);
     }
 
     private static void directions() { // promise 25
@@ -126,28 +155,47 @@ public final class FocusTest {
     }
 
     private static void cutsOfMoving() { // promise 28
-        TrackArray x = Scenes.noisy(99, 99);
+        TrackArray x = new TrackArray();
         x.setSound(100);
         x.setGround(80);
         x.setCut(true);
         x.addVehicle(-2000, 20, 150);
+        for (int k = 0; k < 6; k++) {
+            x.addSource(0, 0, 0, 10, 98);
+            x.addValue(k, -99);
+            x.addValue(k, 97);
+        }
         x.addMicrophone(0, 0, 400, 1);
         x.setNoise(5, 99);
         x.makeRecording();
         x.focusOnVehicle(0, 0, 500);
+        cutParts(x, false);
+        x.setSpreading(true);
+        cutParts(x, true);
+    }
+
+    private static void cutParts(TrackArray x, boolean spreading) {
         for (int t = 0; t <= 255; t++) {
-            int n = x.sampleNumber(1, t);
+            int n = x.sampleNumber(0, t);
             int u = NOTHING;
             for (int each = 0; each <= 255; each++) {
-                int along = -2000 + 20 * each;
-                int length = (int) Math.sqrt(along * along + 150 * 150 + 900 * 900);
-                if (100 * each + length <= 100 * n) {
+                if (100 * each + length(each, 900) <= 100 * n) {
                     u = each;
                 }
             }
-            int due = n > 255 ? 0 : x.sample(1, n) - (u == NOTHING || u >= t ? 0 : x.part(1, u) * 80 / 100);
-            C.due("part(1, " + t + ")", x.part(1, t), due);
+            int due = n > 255 ? 0 : x.sample(0, n);
+            if (n <= 255 && u != NOTHING && u < t) {
+                int part = x.part(0, u);
+                int spread = spreading ? part * (1000 + length(u, 100)) / (1000 + length(u, 900)) : part;
+                due -= spread * 80 / 100;
+            }
+            C.due("part(0, " + t + ")", x.part(0, t), due);
         }
+    }
+
+    private static int length(int time, int up) {
+        int along = -2000 + 20 * time;
+        return (int) Math.sqrt(along * along + 150 * 150 + up * up);
     }
 
     private static final int NOTHING = -1;
@@ -159,6 +207,9 @@ public final class FocusTest {
         C.outside("no microphone at 256", () -> full.sampleNumber(8, 256));
         TrackArray x = Scenes.plain();
         C.due("exactly a sample", x.sampleNumber(0, 0), 1);
+        x.focusOnPlace(0, 101, 0);
+        C.due("a centimeter more", x.sampleNumber(0, 0), 2);
+        x.focusOnPlace(0, 100, 0);
         C.due("behind the record", x.sampleNumber(1, 255), 257);
         x.setSound(101);
         C.due("a part of a sample", x.sampleNumber(0, 0), 1);

@@ -45,6 +45,14 @@ public final class RecordsTest {
         x.addValue(0, 50);
         x.makeRecording();
         C.due("direct then", x.sample(0, 4), 10);
+        TrackArray strong = new TrackArray();
+        strong.setSound(100);
+        strong.setGround(-90);
+        strong.addVehicle(0, 0, 100);
+        strong.addSource(0, 0, 0, 10, 99);
+        strong.addMicrophone(0, 0, 0, 1);
+        strong.makeRecording();
+        C.due("990 and -90 in the hundred", strong.sample(0, 1), 990 - 891);
         // -25 of 10 in the hundred is -2.5
         C.due("a negative reflection toward 0", x.sample(0, 5), 50 - 2);
         C.due("a negative reflection", x.sample(0, 6), 10 - 12);
@@ -60,6 +68,17 @@ public final class RecordsTest {
         C.due("direct", x.sample(0, 4), 7);
         C.due("with the reflection", x.sample(0, 5), -7 + 5);
         C.due("later", x.sample(0, 6), 7 - 5);
+        // 990000 / 1001 is 989.01, 990000 / 1002 is 988.02
+        TrackArray near = new TrackArray();
+        near.setSound(100);
+        near.setSpreading(true);
+        near.addVehicle(0, 0, 100);
+        near.addMicrophone(0, 99, 0, 1);
+        near.addMicrophone(0, 98, 0, 1);
+        near.addSource(0, 0, 0, 10, 99);
+        near.makeRecording();
+        C.due("990 over 1", near.sample(0, 1), 989);
+        C.due("990 over 2", near.sample(1, 1), 988);
         // the vehicle is 300 nearer at the time 10: the distance of the emission counts
         TrackArray y = new TrackArray();
         y.setSound(100);
@@ -249,6 +268,14 @@ public final class RecordsTest {
         C.due("lag -253", x.correlation(0, 1, -253), 10 * 10);
         C.due("lag 254", x.correlation(0, 1, 254), 10 * -6);
         C.due("lag 255", x.correlation(0, 1, 255), 0);
+        TrackArray y = Scenes.noisy(31, 99);
+        C.due("both ends", y.correlation(0, 0, 255), (long) y.sample(0, 0) * y.sample(0, 255));
+        C.due("both ends turned", y.correlation(0, 0, -255), (long) y.sample(0, 0) * y.sample(0, 255));
+        long sum = 0;
+        for (int n = 0; n <= 255; n++) {
+            sum += (long) y.sample(0, n) * y.sample(0, n);
+        }
+        C.due("all of it", y.correlation(0, 0, 0), sum);
     }
 
     private static void bestLags() { // promise 22
@@ -263,6 +290,22 @@ public final class RecordsTest {
         C.due("later", x.bestLag(0, 1, 3), 1);
         C.due("earlier", x.bestLag(1, 0, 3), -1);
         C.due("no lag", x.bestLag(0, 1, 0), 0);
+        C.due("just far enough, later", x.bestLag(0, 1, 1), 1);
+        C.due("just far enough, earlier", x.bestLag(1, 0, 1), -1);
+        TrackArray far = new TrackArray();
+        far.setSound(100);
+        far.addVehicle(0, 0, 100);
+        far.addSource(0, 0, 0, 1, 99);
+        for (int k = 1; k < 16; k++) {
+            far.addValue(0, 0);
+        }
+        far.addMicrophone(0, 0, 0, 1);
+        far.addMicrophone(283, 0, 0, 1);
+        far.makeRecording();
+        C.due("not far enough", far.bestLag(0, 1, 1), 0);
+        C.due("two later", far.bestLag(0, 1, 2), 2);
+        C.due("two earlier", far.bestLag(1, 0, 13), -2);
+        C.due("14 later is less, for there are fewer", far.bestLag(1, 0, 255), -2);
         C.due("with itself", x.bestLag(0, 0, 255), 0);
         // 1, 0, 1, 0 .. from 1 on and from 2 on: the lags -1 and 1 find 127 products each
         TrackArray y = new TrackArray();

@@ -120,9 +120,12 @@ public final class SavesTest {
         TrackArray z = rich();
         z.focusOnDirection(-30);
         same("a direction", y, z);
+        y.focusOnDirection(31);
+        y.restore(1);
+        same("another direction", y, z);
         y.focusOnPlace(3, 300, 3);
         y.save(1);
-        y.focusOnDirection(-30);
+        y.focusOnPlace(33, 333, 33);
         y.restore(1);
         z.focusOnPlace(3, 300, 3);
         same("a place", y, z);
@@ -203,5 +206,19 @@ public final class SavesTest {
         x.restore(1);
         same("restored after load()", x, rich());
         sameSettings("restored after load()", x, rich());
+        String other = "mic 1 2 3 4; mic 5 6 7 8; mic 9 9 9 9; vehicle 1 2 300; vehicle 4 5 600; source 0 1 2 3 4 5 6;"
+                + "source 0 7 8 9 10 11; sound 999; ground 1; spreading; noise 1;";
+        TrackArray y = rich();
+        y.save(0);
+        C.due("load() of another", Checks.loadText(y, other), 11);
+        y.save(1);
+        y.restore(0);
+        same("restored after another", y, rich());
+        y.restore(1);
+        TrackArray z = new TrackArray();
+        Checks.loadText(z, other);
+        same("another restored", y, z);
+        y.restore(0);
+        sameSettings("restored after another", y, rich());
     }
 }

@@ -127,6 +127,11 @@ public final class TextsTest {
         TrackArray noisy = Scenes.noisy(1, 2);
         x.makeRecording();
         C.due("noise of level 2 from the state 1", x.sample(0, 0), noisy.sample(0, 0));
+        // heights of 123 and 45, offset 6: sums and differences of them
+        TrackArray z = good("mic 0 0 45 0;" + V + "source 0 6 123 7 8;", 3);
+        C.due("heights direct", z.distance(0, 0, 0, false), (int) Math.sqrt(36 + 10000 + 78 * 78));
+        C.due("heights reflected", z.distance(0, 0, 0, true), (int) Math.sqrt(36 + 10000 + 168 * 168));
+        C.due("strength", z.emitted(0, 0), 56);
         TrackArray y = good("sound 200; sound 300; ground 5; ground -5; noise 9; noise 0; spreading; spreading;", 8);
         C.due("the last sound", y.setSound(100), 300);
         C.due("the last ground", y.setGround(0), -5);
@@ -171,6 +176,28 @@ public final class TextsTest {
         C.due("the state is 1 again", x.sample(0, 0), Scenes.noisy(1, 56).sample(0, 0));
         x.restore(1);
         C.due("saved states stay", x.sample(3, 200), heard);
+        again();
+    }
+
+    /** Of a text that was read before nothing is left in the next one. */
+    private static void again() {
+        TrackArray x = new TrackArray();
+        String all = V + V + S + "source 1 5 6 7 8 9 10;" + M + M + "sound 101; ground 9; noise 9; spreading;";
+        C.due("load()", Checks.loadText(x, all), 10);
+        C.due("load() again", Checks.loadText(x, all), 10);
+        C.due("emitted(1, 3)", x.emitted(1, 3), 56);
+        C.due("addValue(0, 1)", x.addValue(0, 1), 2);
+        C.due("load() with an error", Checks.loadText(x, all + "x"), -1);
+        C.due("load() of nothing", x.load(), 0);
+        for (int what = 0; what <= 3; what++) {
+            C.due("count(" + what + ")", x.count(what), 0);
+        }
+        C.due("setSound", x.setSound(340), 340);
+        C.due("setGround", x.setGround(0), 0);
+        C.due("setSpreading", x.setSpreading(false), false);
+        x.addMicrophone(0, 0, 0, 1);
+        x.makeRecording();
+        C.due("no noise", x.measureRecord(0, 0, 0, 255), 0);
     }
 
     private static void blanks() { // promise 41
