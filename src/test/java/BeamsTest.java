@@ -224,9 +224,9 @@ public final class BeamsTest {
         C.due("to the right", y.scan(50, 6, 0, 200), 5);
         y.focusOnPlace(250, 100, 0);
         C.due("to the left", y.scan(50, 6, 0, 200), -5);
-        C.due("to the left, not far enough", y.scan(1, 3, 0, 200), best(y, 1, 3));
+        C.due("to the left, not far enough", y.scan(1, 3, 0, 200), best(y, 1, 3, 0));
         y.focusOnDirection(60);
-        C.due("directions", y.scan(7, 20, 20, 200), best2(y, 7, 20));
+        C.due("directions", y.scan(7, 20, 20, 200), best(y, 7, 20, 20));
         // a beam that is even about the focus: -1 and 1 are equally good, and better than 0
         TrackArray even = new TrackArray();
         even.setSound(100);
@@ -256,20 +256,11 @@ public final class BeamsTest {
         return best;
     }
 
-    private static int best(TrackArray x, int step, int steps) {
+    private static int best(TrackArray x, int step, int steps, int first) {
         int best = 0;
         for (int k = 1; k <= steps; k++) {
-            best = x.energyBeside(-k * step, 0, 200) > x.energyBeside(best * step, 0, 200) ? -k : best;
-            best = x.energyBeside(k * step, 0, 200) > x.energyBeside(best * step, 0, 200) ? k : best;
-        }
-        return best;
-    }
-
-    private static int best2(TrackArray x, int step, int steps) {
-        int best = 0;
-        for (int k = 1; k <= steps; k++) {
-            best = x.energyBeside(-k * step, 20, 200) > x.energyBeside(best * step, 20, 200) ? -k : best;
-            best = x.energyBeside(k * step, 20, 200) > x.energyBeside(best * step, 20, 200) ? k : best;
+            best = x.energyBeside(-k * step, first, 200) > x.energyBeside(best * step, first, 200) ? -k : best;
+            best = x.energyBeside(k * step, first, 200) > x.energyBeside(best * step, first, 200) ? k : best;
         }
         return best;
     }
