@@ -271,7 +271,19 @@ public final class BeamsTest {
         C.window("bestDirection", (first, last) -> x.bestDirection(100, first, last));
         C.due("of silence", new TrackArray().bestDirection(1, 0, 255), -100);
         C.due("all alike", x.bestDirection(1, 0, 255), -100);
-        // far away to the left: sound comes to the microphones at -600, 0 and 600 six samples apart
+        TrackArray y = fromTheLeft();
+        long before = y.measureBeam(0, 0, 255);
+        C.due("from the left", y.bestDirection(1, 100, 200), 100);
+        C.due("from the left in steps of 100", y.bestDirection(100, 100, 200), 100);
+        C.due("the focus stays", y.measureBeam(0, 0, 255), before);
+        for (int step : new int[] {1, 3, 7, 33, 99, 100}) {
+            TrackArray z = fromTheLeft();
+            C.due("steps of " + step, z.bestDirection(step, 90, 180), bestOf(z, step));
+        }
+    }
+
+    /** Far away to the left: sound comes to the microphones at -600, 0 and 600 six samples apart. */
+    private static TrackArray fromTheLeft() {
         TrackArray y = new TrackArray();
         y.setSound(100);
         y.addVehicle(-8000, 0, 100);
@@ -284,13 +296,7 @@ public final class BeamsTest {
         }
         y.makeRecording();
         y.focusOnPlace(0, 100, 0);
-        long before = y.measureBeam(0, 0, 255);
-        C.due("from the left", y.bestDirection(1, 100, 200), 100);
-        C.due("from the left in steps of 100", y.bestDirection(100, 100, 200), 100);
-        C.due("the focus stays", y.measureBeam(0, 0, 255), before);
-        for (int step : new int[] {1, 3, 7, 33, 99, 100}) {
-            C.due("steps of " + step, y.bestDirection(step, 90, 180), bestOf(y, step));
-        }
+        return y;
     }
 
     private static int bestOf(TrackArray x, int step) {

@@ -4,11 +4,18 @@ import java.util.function.IntConsumer;
 /** Compares answers with the ones that are due, and ends the program with 1 if there was a wrong one. */
 final class Checks {
     private final String name;
+    private String subject;
     private int made;
     private int wrong;
 
     Checks(String name) {
         this.name = name;
+        this.subject = name;
+    }
+
+    /** What the checks that follow are about: what goes wrong in them is told under this name. */
+    void about(String newSubject) {
+        subject = newSubject;
     }
 
     void due(String call, long got, long want) {
@@ -26,6 +33,22 @@ final class Checks {
         made++;
         if (Double.compare(got, want) != 0) {
             complain(call + " answered " + got + ", due is " + want);
+        }
+    }
+
+    /** Compares two texts of many lines, and tells the first one that differs. */
+    void same(String what, String got, String want) {
+        made++;
+        String[] gotLines = got.split("\n");
+        String[] wantLines = want.split("\n");
+        for (int k = 0; k < gotLines.length && k < wantLines.length; k++) {
+            if (!gotLines[k].equals(wantLines[k])) {
+                complain(what + ": " + gotLines[k] + ", due is " + wantLines[k]);
+                return;
+            }
+        }
+        if (gotLines.length != wantLines.length) {
+            complain(what + ": " + gotLines.length + " lines, due are " + wantLines.length);
         }
     }
 
@@ -108,7 +131,7 @@ final class Checks {
     void complain(String what) {
         wrong++;
         if (wrong <= 40) {
-            System.out.println(name + ": " + what);
+            System.out.println(subject + ": " + what);
         }
     }
 

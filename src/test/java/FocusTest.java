@@ -155,6 +155,15 @@ public final class FocusTest {
     }
 
     private static void cutsOfMoving() { // promise 28
+        for (int first = 0; first <= 255; first += 64) {
+            cutParts(approaching(), first, false);
+            TrackArray spread = approaching();
+            spread.setSpreading(true);
+            cutParts(spread, first, true);
+        }
+    }
+
+    private static TrackArray approaching() {
         TrackArray x = new TrackArray();
         x.setSound(100);
         x.setGround(80);
@@ -169,13 +178,11 @@ public final class FocusTest {
         x.setNoise(5, 99);
         x.makeRecording();
         x.focusOnVehicle(0, 0, 500);
-        cutParts(x, false);
-        x.setSpreading(true);
-        cutParts(x, true);
+        return x;
     }
 
-    private static void cutParts(TrackArray x, boolean spreading) {
-        for (int t = 0; t <= 255; t++) {
+    private static void cutParts(TrackArray x, int first, boolean spreading) {
+        for (int t = first; t < first + 64; t++) {
             int n = x.sampleNumber(0, t);
             int u = NOTHING;
             for (int each = 0; each <= 255; each++) {

@@ -94,19 +94,15 @@ public final class RecordsTest {
     }
 
     private static void noise() { // promise 16
-        TrackArray x = new TrackArray();
-        x.addMicrophone(0, 0, 0, 1);
-        x.addMicrophone(0, 0, 0, 1);
-        x.setNoise(12345, 4);
-        x.makeRecording();
-        long state = 12345;
-        for (int n = 0; n < 512; n++) {
-            state = (state * 1103515245 + 12345) % 2147483648L;
-            C.due("noise " + n, x.sample(n / 256, n % 256), state / 65536 % 9 - 4);
+        int[] due = Scenes.noise(12345, 4, 513);
+        TrackArray x = twoNoises();
+        TrackArray same = twoNoises();
+        for (int n = 0; n <= 255; n++) {
+            C.due("noise " + n + " of 0", x.sample(0, n), due[n]);
+            C.due("noise " + n + " of 1", same.sample(1, n), due[256 + n]);
         }
         x.makeRecording();
-        state = (state * 1103515245 + 12345) % 2147483648L;
-        C.due("noise goes on", x.sample(0, 0), state / 65536 % 9 - 4);
+        C.due("noise goes on", x.sample(0, 0), due[512]);
         x.setNoise(12345, 0);
         x.makeRecording();
         C.due("no noise", x.measureRecord(1, 0, 0, 255), 0);
@@ -124,6 +120,15 @@ public final class RecordsTest {
         Checks.loadText(z, "noise 9; mic 0 0 0 1;");
         z.makeRecording();
         C.due("the state is 1 at first", z.sample(0, 77), once.sample(0, 77));
+    }
+
+    private static TrackArray twoNoises() {
+        TrackArray x = new TrackArray();
+        x.addMicrophone(0, 0, 0, 1);
+        x.addMicrophone(0, 0, 0, 1);
+        x.setNoise(12345, 4);
+        x.makeRecording();
+        return x;
     }
 
     private static void staying() { // promise 16
@@ -272,8 +277,8 @@ public final class RecordsTest {
         C.due("both ends", y.correlation(0, 0, 255), (long) y.sample(0, 0) * y.sample(0, 255));
         C.due("both ends turned", y.correlation(0, 0, -255), (long) y.sample(0, 0) * y.sample(0, 255));
         long sum = 0;
-        for (int n = 0; n <= 255; n++) {
-            sum += (long) y.sample(0, n) * y.sample(0, n);
+        for (int n : Scenes.noise(31, 99, 256)) {
+            sum += (long) n * n;
         }
         C.due("all of it", y.correlation(0, 0, 0), sum);
     }

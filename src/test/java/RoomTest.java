@@ -5,13 +5,12 @@ public final class RoomTest {
     private static final Checks C = new Checks("RoomTest");
 
     public static void main(String[] args) {
-        for (int turn = 0; turn < 3; turn++) {
-            dearest(8);
-        }
+        dearest(new TrackArray(), 8);
+        TrackArray used = new TrackArray();
         long before = made();
-        dearest(60);
+        dearest(used, 50);
         long bytes = made() - before;
-        C.due("60 turns of the dearest calls make " + bytes + " bytes, more than 60000", bytes > 60000, false);
+        C.due("50 turns of the dearest calls make " + bytes + " bytes, more than 60000", bytes > 60000, false);
         before = made();
         TrackArray x = new TrackArray();
         bytes = made() - before;
@@ -25,32 +24,30 @@ public final class RoomTest {
         return bean.getThreadAllocatedBytes(Thread.currentThread().getId());
     }
 
-    private static final TrackArray X = new TrackArray();
-
-    private static void dearest(int calls) {
-        X.truncateText(0);
-        append("vehicle 0 50 100;source 0 0 500 1 1 2 3;sound 100;ground 90;spreading; noise 5; ");
-        append("mic 0 0 1 1;mic 9 0 9 1;mic 0 0 0 1;mic 9 0 0 1;mic 0 0 0 1;mic 9 0 9 1;mic 0 0 0 1;mic 9 0 9 1;    ");
-        C.due("load()", X.load(), 14);
-        X.makeRecording();
-        X.setCut(true);
-        X.focusOnVehicle(0, 0, 500);
-        for (int call = 0; call < calls; call++) {
-            X.scan(100, 20, 0, 255);
-            X.bestDirection(1, 0, 255);
-            X.bestPeriod(64, 0, 255);
-            X.bestLag(0, 1, 255);
-            X.loudestWindow(0, 128);
-            X.crest(0, 255);
-            X.makeRecording();
-            X.save(call % 2);
-            X.restore(call % 2);
+    private static void dearest(TrackArray x, int turns) {
+        append(x, "vehicle 0 50 100;source 0 0 500 1 1 2 3;sound 100;ground 90;spreading; noise 5; ");
+        append(x, "mic 0 0 1 1;mic 9 0 9 1;mic 0 0 0 1;mic 9 0 0 1;");
+        append(x, "mic 0 0 0 1;mic 9 0 9 1;mic 0 0 0 1;mic 9 0 9 1;");
+        C.due("load()", x.load(), 14);
+        x.makeRecording();
+        x.setCut(true);
+        x.focusOnVehicle(0, 0, 500);
+        for (int turn = 0; turn < turns; turn++) {
+            x.scan(100, 20, 0, 255);
+            x.bestDirection(1, 0, 255);
+            x.bestPeriod(64, 0, 255);
+            x.bestLag(0, 1, 255);
+            x.loudestWindow(0, 128);
+            x.crest(0, 255);
+            x.makeRecording();
+            x.save(turn % 2);
+            x.restore(turn % 2);
         }
     }
 
-    private static void append(String text) {
+    private static void append(TrackArray x, String text) {
         for (int index = 0; index + 4 <= text.length(); index += 4) {
-            X.appendText(text.charAt(index) << 24 | text.charAt(index + 1) << 16 | text.charAt(index + 2) << 8
+            x.appendText(text.charAt(index) << 24 | text.charAt(index + 1) << 16 | text.charAt(index + 2) << 8
                     | text.charAt(index + 3));
         }
     }

@@ -71,10 +71,11 @@ public final class TextsTest {
         C.due("its error position", x.errorPosition(), 0);
         for (int each = 0; each <= 255; each++) {
             boolean blank = each == 32 || each == 10;
-            x.appendText(each << 24 | 0x202020);
-            C.due("load() of the byte " + each, x.load(), blank ? 0 : -1);
-            C.due("error code of the byte " + each, x.errorCode(), blank ? 0 : 1);
-            C.due("error position of the byte " + each, x.errorPosition(), blank ? -1 : 0);
+            TrackArray y = new TrackArray();
+            y.appendText(each << 24 | 0x202020);
+            C.due("load() of the byte " + each, y.load(), blank ? 0 : -1);
+            C.due("error code of the byte " + each, y.errorCode(), blank ? 0 : 1);
+            C.due("error position of the byte " + each, y.errorPosition(), blank ? -1 : 0);
             good("spreading" + (blank ? (char) each : ' ') + ";", 1);
         }
         for (int each = 0; each <= 255; each++) {
