@@ -29,12 +29,40 @@ final class SaveSentences extends Sentences {
         TrackArray z = Scenes.crammed();
         z.save(0);
         z.truncateText(0);
-        z.load();
+        Checks.loadText(z, "vehicle -500 5 100;vehicle -500 5 100;");
         z.restore(0);
         c.due("vehicles after load()", z.count(0), 4);
         c.due("sources after load()", z.count(1), 6);
         c.due("the 16th value after load()", z.emitted(0, 15), 61);
         c.due("the sound after load()", z.setSound(100), 100);
+        c.due("the vehicle 0 after load()", z.passTime(0, 7), 0);
+        c.due("the vehicle 1 after load()", z.passTime(1, 7), 0);
+    }
+
+    @Says(promise = 44, sentence = "Saves everything except the text buffer, the latest error and the saved states;")
+    void eachKindOfFocusIsSaved() {
+        TrackArray x = Scenes.looking();
+        x.focusOnDirection(40);
+        x.save(0);
+        x.focusOnDirection(-60);
+        x.restore(0);
+        c.due("a direction after another one", x.sampleNumber(0, 9), 9 + 20);
+        x.focusOnPlace(5000, 700, 0);
+        x.save(1);
+        x.restore(0);
+        c.due("a direction after a place", x.sampleNumber(0, 9), 9 + 20);
+        x.restore(1);
+        c.due("a place after a direction", x.sampleNumber(0, 9), 9 + 7);
+        x.focusOnPlace(5000, 300, 0);
+        x.restore(1);
+        c.due("a place after another one", x.sampleNumber(0, 9), 9 + 7);
+        x.addVehicle(4910, 10, 900);
+        x.focusOnVehicle(0, 0, 0);
+        x.save(0);
+        x.restore(1);
+        x.restore(0);
+        c.due("a place on a vehicle after a fixed one", x.sampleNumber(0, 9), 9 + 9);
+        c.due("it rides on", x.sampleNumber(0, 99), 99 + 13);
     }
 
     @Says(promise = 44, sentence = "Saves everything except the text buffer, the latest error and the saved states;")

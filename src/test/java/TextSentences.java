@@ -161,6 +161,13 @@ final class TextSentences extends Sentences {
         wrong("spreading;spreadin;", 1, 10);
         wrong("Spreading;", 1, 0);
         wrong("spreadinG;", 1, 0);
+        for (String word : new String[] {"mic", "vehicle", "source", "sound", "ground", "noise", "spreading"}) {
+            for (int index = 0; index < word.length(); index++) {
+                String start = word.substring(0, index);
+                wrong(start + "x" + word.substring(index + 1) + " 200;", 1, 0);
+                wrong(start + word.substring(index + 1) + " 200;", 1, 0);
+            }
+        }
         wrong("sound`200;", 1, 5);
         wrong("sound{200;", 1, 5);
     }
@@ -263,6 +270,12 @@ final class TextSentences extends Sentences {
         TrackArray x = good("vehicle -300 10 400;source 0 0 0 1 1;mic 0 0 0 0;", 3);
         c.due("at 0", x.distance(0, 0, 0, false), 500);
         c.due("at 30", x.distance(0, 0, 30, false), 400);
+        c.due("it passes", x.passTime(0, 0), 30);
+        TrackArray y = Scenes.rich();
+        y.truncateText(0);
+        Checks.loadText(y, "mic 5 0 0 0;vehicle 305 -15 100;vehicle 0 1 100;");
+        c.due("the first one, where there was another, passes", y.passTime(0, 0), 20);
+        c.due("the second one passes", y.passTime(1, 0), 5);
         wrong("vehicle 0 0;", 1, 11);
         wrong("vehicle 0 0 100 0;", 1, 16);
     }
